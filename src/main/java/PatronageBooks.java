@@ -1009,10 +1009,10 @@ public final class PatronageBooks {
         private void payByYears(int budget) {
             int open = budget;
             int from = 0;
-            while (from < count) {
+            for (int y = 0; y < YEAR_PLACES; y++) {
                 int sum = 0;
                 int to = from;
-                while (to < count && years[to] == years[from]) {
+                while (to < count && years[to] == y) {
                     sum += amounts[to];
                     to++;
                 }

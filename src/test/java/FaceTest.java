@@ -88,6 +88,11 @@ public final class FaceTest {
                 Check.same("private " + method.getName() + " bears a public name", open.contains(method.getName()), false);
             }
         }
+        for (Class<?> inside : PatronageBooks.class.getDeclaredClasses()) {
+            for (Method method : inside.getDeclaredMethods()) {
+                Check.same(inside.getName() + " " + method.getName() + " bears a public name", open.contains(method.getName()), false);
+            }
+        }
     }
 
     private static String written(Method method) {

@@ -123,6 +123,13 @@ public final class PromisesTest {
         Check.same("nothing is left over", x.consents(0), false);
         Check.same("nothing is left over", x.rateOf(0), 0.0);
         Check.same("nothing is left over", x.balance(), 0);
+        Texts.load(x, "member a;section s;trade a s 1;close 100;trade a s 1;close -50;");
+        x.leave(0);
+        x.setSetting(PatronageBooks.RESERVE, 0);
+        Texts.load(x, "member b;section s;");
+        Check.same("nothing is left over", x.lastRecapture(0) + x.lastAllocation(0) + x.balance() + x.installmentsLeft(0), 0);
+        Check.same("nothing is left over", x.stateOf(0), PatronageBooks.ACTIVE);
+        Check.same("nothing is left over", x.getSetting(PatronageBooks.RESERVE), 10);
     }
 
     private static void error(String text, int code, int position) {
@@ -160,6 +167,15 @@ public final class PromisesTest {
             error("section " + word + ";", code, 8);
             error("trade " + word + " s 1;", code, 6);
             error("member a;trade a " + word + " 1;", code, 17);
+        }
+        String[] nearly = {"bember a", "bection a", "brade a s 1", "blose", "bet cash 30", "set bash 30", "set beserve 9"};
+        for (String statement : nearly) {
+            error(statement + ";", code, statement.startsWith("set") ? 4 : 0);
+        }
+        error("member a bonsent;", code, 9);
+        String[] allowed = {"bember", "brade", "blose", "bet", "bash", "bears", "beep", "bolicy", "membes", "se", "sett"};
+        for (String name : allowed) {
+            Check.same(name, Texts.books("member " + name + ";").memberNamed(Texts.name(name)), 0);
         }
         error("member a;section s;trade a s;", code, 28);
         error("member a;section s;trade a s -1;", code, 29);
@@ -1026,6 +1042,15 @@ public final class PromisesTest {
         Check.same("leave", x.leave(0), 5);
         Check.same("leaving already", x.leave(0), PatronageBooks.IN_USE);
         Check.same("undoCount", x.undoCount(), 2);
+        PatronageBooks y = Texts.books("member a;section s;set reserve 0;trade a s 1;close 1;");
+        y.trade(0, 0, 1);
+        Check.same("patronage in the first department", y.leave(0), PatronageBooks.IN_USE);
+        y.undo();
+        Check.same("an equity of 1", y.leave(0), 5);
+        Check.same("kind of a certificate of 1", y.kindOf(0, 0), PatronageBooks.NONQUALIFIED);
+        Check.same("oldest year of an equity of 1", y.oldestYear(0), 0);
+        Check.same("mean age of an equity of 1", y.meanAge(0), 1.0);
+        Check.same("part of an equity of 1", y.partOf(0), 1.0);
         x.setSetting(PatronageBooks.YEARS, 1);
         Check.same("one installment", x.leave(1), 1);
         x.close(0, 0, 0, 0);

@@ -5,6 +5,7 @@ import java.util.Random;
 /** Runs of calls by a fixed seed on the class and on the oracle; after each change every answer is compared. */
 public final class RandomRunsTest {
     private static final int RUNS = 400;
+    private static final int FULL_RUNS = 6;
     private static final int CHANGES = 60;
     private static final int[] ODD = {Integer.MIN_VALUE, -1000001, -2, -1, 0, 1, 2, 3, 4, 5, 7, 8, 9, 23, 24, 25, 26, 84,
         100000, 100001, 1000000, 1000001, 10000000, 10000001, Integer.MAX_VALUE};
@@ -22,6 +23,10 @@ public final class RandomRunsTest {
             Check.section("run " + run);
             new RandomRunsTest(run).run();
         }
+        for (int run = 1; run <= FULL_RUNS; run++) {
+            Check.section("full run " + run);
+            new RandomRunsTest(-run).fullRun(run % 3);
+        }
         Check.end();
     }
 
@@ -32,6 +37,34 @@ public final class RandomRunsTest {
         compareAll();
         for (int n = 0; n < CHANGES; n++) {
             change();
+            compareAll();
+        }
+    }
+
+    /** As many members, departments, years and certificates as there can be. */
+    private void fullRun(int policy) {
+        String text = "member a;member b consent;member c;member d;member e consent;member f;member g;member h;"
+                + "section p;section q;section r;section s;set keep 1;set policy " + policy + ";";
+        feedText(text);
+        loadFed(text, text.length());
+        while (o.now.year < 24) {
+            for (int m = 0; m < 8; m++) {
+                int d = random.nextInt(4);
+                int amount = some(1, 100000);
+                o.keep();
+                o.now.people.get(m).trade[d] += amount;
+                Check.same("trade", x.trade(m, d, amount), amount);
+            }
+            int[] r = {some(1000, 1000000), some(1000, 1000000), some(1000, 1000000), some(1000, 1000000)};
+            compareWould(r);
+            o.keep();
+            o.now.close(r);
+            Check.same("close", x.close(r[0], r[1], r[2], r[3]), o.now.year - 1);
+        }
+        compareAll();
+        compareWould(new int[] {1000000, -1000000, 5, 0});
+        for (int n = 0; n < 20; n++) {
+            redeem();
             compareAll();
         }
     }
@@ -193,6 +226,12 @@ public final class RandomRunsTest {
     }
 
     private void loadText(String text) {
+        feedText(text);
+        int length = random.nextInt(20) == 0 ? odd() : random.nextInt(4) == 0 ? o.buffer.length() : Math.min(text.length(), 900);
+        loadFed(text, length);
+    }
+
+    private void feedText(String text) {
         for (int i = 0; i < text.length(); i += 20) {
             StringBuilder piece = new StringBuilder(text.substring(i, Math.min(text.length(), i + 20)));
             while (piece.length() < 20) {
@@ -206,7 +245,9 @@ public final class RandomRunsTest {
             byte[] b = piece.toString().getBytes(java.nio.charset.StandardCharsets.ISO_8859_1);
             Check.same("feed", x.feed(Texts.four(b, 0), Texts.four(b, 4), Texts.four(b, 8), Texts.four(b, 12), Texts.four(b, 16)), want);
         }
-        int length = random.nextInt(20) == 0 ? odd() : random.nextInt(4) == 0 ? o.buffer.length() : Math.min(text.length(), 900);
+    }
+
+    private void loadFed(String text, int length) {
         int want = o.load(length);
         Check.same("load of " + text, x.load(length), want);
         Check.same("errorPosition of " + text, x.errorPosition(), o.errorPosition);
