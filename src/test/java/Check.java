@@ -27,6 +27,10 @@ final class Check {
         note(what, Double.compare(got, want) == 0, Double.toString(got), Double.toString(want));
     }
 
+    static void same(String what, String got, String want) {
+        note(what, got.equals(want), got, want);
+    }
+
     /** The exception must be the one of the document itself, not one that the machine throws. */
     static void refused(String what, Call call) {
         String got;
