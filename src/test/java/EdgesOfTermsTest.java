@@ -27,6 +27,7 @@ public final class EdgesOfTermsTest {
         sharingUnitsLeft();
         sharingTies();
         sharingTheGreatest();
+        sharingAgain();
         surplus();
         surplusOfNobody();
         losses();
@@ -180,6 +181,23 @@ public final class EdgesOfTermsTest {
         PatronageBooks y = weighted(most, 1);
         // 999999.000001 and 0.999999.
         shared(y, most, 999999, 1);
+    }
+
+    private static void sharingAgain() {
+        Check.section("SHARING: a sharing among few behind one among many");
+        PatronageBooks x = Texts.books(TENS);
+        x.setSetting(PatronageBooks.POLICY, 1);
+        x.trade(0, 0, 1);
+        x.trade(1, 0, 1);
+        int[] amounts = {1, 3, 999999};
+        for (int amount : amounts) {
+            Check.same("four shares", x.wouldRedeem(0, 5), 3);
+            Check.same("two shares, " + amount, x.wouldGet(0, amount, 0, 0, 0), amount / 2 + 1);
+            Check.same("two shares, " + amount, x.wouldGet(1, amount, 0, 0, 0), amount / 2);
+        }
+        Check.same("four shares", x.redeem(5), 5);
+        x.close(1, 0, 0, 0);
+        Check.same("two shares", x.lastAllocation(0) * 10 + x.lastAllocation(1), 10);
     }
 
     private static void surplus(int reserve, int result, int kept) {

@@ -233,6 +233,9 @@ public final class EdgesOfTextsTest {
                 "-", "#", "year", "polic", "kee", "reserv", "reserves");
         notAllowed("set cash ", "-", "-30", ";", "a", "cash", "#");
         notAllowed("set cash 30 ", "30", "-", "a", "#");
+        PatronageBooks x = good("member a;section s;trade a s 1;close 100;set reserve 50;trade a s 1;close 100;", 7);
+        Check.same("for the close statements behind it", x.reserve(), 10 + 50);
+        Check.same("behind a close statement", x.getSetting(PatronageBooks.RESERVE), 50);
     }
 
     private static void endsTooEarly() {
@@ -679,6 +682,8 @@ public final class EdgesOfTextsTest {
         Check.same("BAD_VALUE", x.errorPosition(), 6);
         Check.same("a change", x.close(0, 0, 0, 0), 0);
         Check.same("a change", x.errorPosition(), 6);
+        Check.same("undo", x.undo(), 0);
+        Check.same("undo", x.errorPosition(), 6);
         Check.same("no error", x.load(0), 0);
         Check.same("no error", x.errorPosition(), PatronageBooks.NOT_FOUND);
         x.load(1);
