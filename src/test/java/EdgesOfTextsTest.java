@@ -117,7 +117,7 @@ public final class EdgesOfTextsTest {
         for (int sign = 0; sign < 256; sign++) {
             String text = "member" + Character.toString(sign) + "a;";
             if (isBlank(sign)) {
-                good(text, 1);
+                Check.same(text, good(text, 1).memberNamed(1 << 25), 0);
             } else {
                 error(text, SYNTAX, isLetter(sign) ? 0 : 6);
             }
