@@ -41,7 +41,9 @@ public final class FaceTest {
         constructor();
         methods();
         classesInside();
+        sizes();
         source();
+        lengths();
         Check.end();
     }
 
@@ -118,8 +120,53 @@ public final class FaceTest {
         }
     }
 
+    /** Rules 5 and 11: static fields are final, few parameters, few classes, few fields. */
+    private static void sizes() {
+        List<Class<?>> all = new ArrayList<>(Arrays.asList(PatronageBooks.class.getDeclaredClasses()));
+        all.add(PatronageBooks.class);
+        Check.same("at most twelve classes", all.size() <= 12, true);
+        for (Class<?> one : all) {
+            int fields = 0;
+            for (Field field : one.getDeclaredFields()) {
+                int m = field.getModifiers();
+                fields += Modifier.isStatic(m) ? 0 : 1;
+                Check.same(one.getName() + " " + field.getName() + " is static and not final",
+                        Modifier.isStatic(m) && !Modifier.isFinal(m), false);
+            }
+            Check.same(one.getName() + " has at most twenty fields", fields <= 20, true);
+            for (Method method : one.getDeclaredMethods()) {
+                Check.same(method.getName() + " has at most seven parameters", method.getParameterCount() <= 7, true);
+            }
+        }
+    }
+
+    private static String program() throws IOException {
+        return Files.readString(Path.of("src/main/java/PatronageBooks.java"));
+    }
+
+    /** Rule 11: methods stay short; a method ends with the first brace at the depth at which it started. */
+    private static void lengths() throws IOException {
+        String[] lines = program().split("\n");
+        int methods = 0;
+        for (int i = 0; i < lines.length; i++) {
+            String line = lines[i];
+            String margin = line.substring(0, line.length() - line.stripLeading().length());
+            boolean starts = (margin.length() == 4 || margin.length() == 8) && line.endsWith(") {")
+                    && !line.strip().matches("(if|for|while|switch|\\}).*") || line.endsWith("Exception {");
+            if (starts) {
+                int end = i;
+                while (end < lines.length && !lines[end].equals(margin + "}")) {
+                    end++;
+                }
+                methods++;
+                Check.same(line.strip() + " is longer than sixty lines", end - i + 1 > 60, false);
+            }
+        }
+        Check.same("methods were found", methods > 52, true);
+    }
+
     private static void source() throws IOException {
-        String text = Files.readString(Path.of("src/main/java/PatronageBooks.java"));
+        String text = program();
         String[] never = {"->", "::", "catch", "finally", "synchronized", "assert", "System.out", "package ",
             "Exact(", "Math.sqrt", "Object", "var "};
         for (String word : never) {
